@@ -1312,8 +1312,9 @@ public final class CandleBar {
 
         /** The FAULT of a text; NONE if it is a RULE. */
         int findFault(int[] written, int count) {
-            readAll(written, count);
-            return failed ? place : NONE;
+            begin(written, count);
+            readSum(0);
+            return failed || sign != END ? place : NONE;
         }
 
         /** A LIGHT PUT RIGHT by the RULE IN FORCE. */
@@ -1325,18 +1326,16 @@ public final class CandleBar {
             values[4] = lit.wanderIn(state.damp);
             values[5] = state.damp;
             values[6] = lit.yellow;
-            return readAll(state.rule, state.ruleSize);
+            begin(state.rule, state.ruleSize);
+            return readSum(0);
         }
 
-        private int readAll(int[] written, int count) {
+        private void begin(int[] written, int count) {
             text = written;
             size = Math.min(count, written.length);
             place = -1;
             failed = false;
             step();
-            int value = readSum(0);
-            failed = failed || sign != END;
-            return value;
         }
 
         private void step() {

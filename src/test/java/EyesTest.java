@@ -129,6 +129,12 @@ public final class EyesTest {
         Check.due("no room", x.match(0, 1, 0, 0), -2);
         Check.due("wrong is ahead of no room", x.match(0, 1, 0, 1000), -1);
         Check.due("thirty", x.count(1), 30);
+        x = new CandleBar();
+        x.light(0, 100, 100, 1);
+        x.light(0, 100, 0, 1);
+        x.eye(0, 2, 20);
+        x.match(0, 1, 0, 0);
+        Check.due("in dim 0", x.told(0, 3), 50);
     }
 
     private static void hear() {

@@ -141,7 +141,14 @@ public final class InspectorsTest {
         Check.due("and again", x.restore(), 1);
         Check.due("its setting", x.of(0, 3), 7);
         Check.due("a light behind it", x.light(3, 1, 2, 3), 1);
+        x.burn(1, 5);
+        x.match(0, 1, 0, 0);
+        x.out(0, true);
+        x.restore();
+        Check.due("another light behind it", x.light(5, 4, 5, 6), 1);
         Check.due("its hours", x.of(1, 4), 0);
+        Check.due("another match", x.match(1, 0, 0, 0), 0);
+        Check.due("it is not out", x.told(0, 5), 0);
     }
 
     private static void imageTakesAll() {
@@ -150,6 +157,8 @@ public final class InspectorsTest {
         x.light(4, 60, 90, 100);
         x.damp(4);
         x.burn(1, 100);
+        x.eye(0, 0, 10);
+        x.eye(7, 0, 17);
         x.eye(3, 0, 11);
         x.eye(3, 1, 12);
         x.eye(3, 2, 13);
@@ -168,6 +177,8 @@ public final class InspectorsTest {
         x.damp(40);
         x.burn(1, 300);
         x.setting(0, 0);
+        x.eye(0, 0, 110);
+        x.eye(7, 0, 117);
         x.eye(3, 0, 111);
         x.eye(3, 1, 112);
         x.eye(3, 2, 3);
@@ -192,6 +203,8 @@ public final class InspectorsTest {
         Check.due("damp", x.damp(0), 4);
         Check.due("out", x.told(0, 5), 0);
         Check.due("out", x.told(1, 5), 1);
+        Check.due("yellow", x.eye(0, 0, 1), 10);
+        Check.due("yellow", x.eye(7, 0, 1), 17);
         Check.due("yellow", x.eye(3, 0, 1), 11);
         Check.due("blue", x.eye(3, 1, 1), 12);
         Check.due("lean", x.eye(3, 2, 1), 13);

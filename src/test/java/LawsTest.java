@@ -34,6 +34,7 @@ public final class LawsTest {
         Check.due("not so many", x.laws(0, 0, 400), -4);
         Check.due("not so many", x.laws(0, 0, Integer.MAX_VALUE), -4);
         Check.due("no place below -1", x.laws(0, 0, -2), -1);
+        Check.due("the last eye", x.laws(7, 50, -1), 400);
         Check.due("no eye", x.laws(8, 0, -1), -1);
         Check.due("no eye", x.laws(-1, 0, -1), -1);
         Check.due("no slip", x.laws(0, 51, -1), -1);
@@ -77,6 +78,7 @@ public final class LawsTest {
         Check.due("one twice", x.parts(0, 0, 1, 1), -1);
         Check.due("no light", x.parts(0, 0, 0, 3), -1);
         Check.due("no light", x.parts(0, 0, -1, 0), -1);
+        Check.due("the last eye", x.parts(7, 50, 0, 1), 64);
         Check.due("no eye", x.parts(8, 0, 0, 1), -1);
         Check.due("no slip", x.parts(0, 51, 0, 1), -1);
         Check.due("no slip", x.parts(0, -1, 0, 1), -1);
@@ -139,6 +141,7 @@ public final class LawsTest {
         Check.due("all eyes, yellow", x.mean(255, 0), 701 / 8);
         Check.due("all eyes, blue", x.mean(255, 1), 900 / 8);
         Check.due("all eyes, lean", x.mean(255, 2), 2);
+        Check.due("the first eye", x.mean(1, 0), 100);
         Check.due("no eyes", x.mean(0, 0), -1);
         Check.due("more than all", x.mean(256, 0), -1);
         Check.due("below", x.mean(-1, 0), -1);

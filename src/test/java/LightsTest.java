@@ -12,6 +12,7 @@ public final class LightsTest {
         damp();
         ofPlain();
         givesOfEachKind();
+        givesOfAgedOnes();
         givesIsHeld();
         wandersOfEachKind();
         Check.finish();
@@ -135,6 +136,21 @@ public final class LightsTest {
         }
     }
 
+    private static void givesOfAgedOnes() {
+        CandleBar x = new CandleBar();
+        x.light(4, 100, 50, 100);
+        x.light(7, 100, 50, 100);
+        int[] hours = {9, 1, 9, 1, 19, 60, 20};
+        int[] glowing = {100, 99, 99, 98, 97, 91, 89};
+        int[] kept = {100, 99, 99, 97, 96, 87, 84};
+        for (int k = 0; k < hours.length; k++) {
+            x.burn(0, hours[k]);
+            x.burn(1, hours[k]);
+            Check.due("a glowing one, " + x.of(0, 4) + " hours", x.of(0, 5), glowing[k]);
+            Check.due("a kept one, " + x.of(1, 4) + " hours", x.of(1, 5), kept[k]);
+        }
+    }
+
     private static void givesIsHeld() {
         CandleBar x = new CandleBar();
         x.damp(50);
@@ -171,5 +187,7 @@ public final class LightsTest {
         x.burn(4, 199);
         Check.due("a kept one that burnt", x.of(7, 6), 2);
         Check.due("a glowing one that burnt", x.of(4, 6), 1);
+        x.burn(7, 1);
+        Check.due("just 200 hours", x.of(7, 6), 3);
     }
 }

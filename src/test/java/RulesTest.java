@@ -211,6 +211,10 @@ public final class RulesTest {
         Check.due("held to 1: two of three", x.aged(66), 256);
         Check.due("held to 1: not more", x.aged(67), 0);
         Check.due("nothing is gone whole", x.aged(100), 0);
+        x = new CandleBar();
+        x.light(4, 100, 0, 100);
+        x.burn(0, 10);
+        Check.due("the first light", x.aged(1), 1);
     }
 
     private static void bills() {
@@ -270,6 +274,7 @@ public final class RulesTest {
         Check.due("half more of 100 and of 7, each cut", x.owed(0), 50 + 3);
         Check.due("half more of 50", x.owed(1), 25);
         Check.due("no bills", x.owed(2), 0);
+        Check.due("the last house", x.owed(3), 0);
         x.setting(1, 60);
         Check.due("half less, each cut", x.owed(0), -50 - 4);
         x.standard(1);

@@ -42,10 +42,12 @@ public final class ShelvesTest {
         for (int sort = 0; sort < 3; sort++) {
             Check.due("the greatest", x.row(0, sort, 100), 0);
             Check.dueElement(x, 0, 99, "0");
+            Check.due("the first", x.put(0, 0, 5), 0);
             Check.due("the last", x.put(0, 99, 5), 0);
             Check.due("the least", x.row(0, sort, 0), 0);
             Check.due("no place", x.put(0, 0, 5), -13);
             Check.due("again", x.row(0, sort, 100), 0);
+            Check.dueElement(x, 0, 0, "0");
             Check.dueElement(x, 0, 99, "0");
         }
         x.put(0, 3, 9);
@@ -114,6 +116,11 @@ public final class ShelvesTest {
         }
         Check.due("none", x.copy(0, 0, 1, 0, 0), 0);
         Check.due("none from the end", x.copy(0, 4, 1, 3, 0), 0);
+        Check.fill(x, 7, Check.SHORTS, 8);
+        Check.due("to the last shelf", x.copy(0, 1, 7, 0, 1), 1);
+        Check.dueElement(x, 7, 0, "5");
+        Check.due("from the last shelf", x.copy(7, 0, 0, 0, 1), 1);
+        Check.dueElement(x, 0, 0, "5");
     }
 
     private static void copyWithinOne() {
@@ -139,7 +146,9 @@ public final class ShelvesTest {
         x.row(2, 1, 3);
         x.keep(3, 1, 0);
         Check.due("no shelf", x.copy(-1, 0, 1, 0, 1), -1);
+        Check.due("no shelf", x.copy(8, 0, 1, 0, 1), -1);
         Check.due("no shelf", x.copy(0, 0, 8, 0, 1), -1);
+        Check.due("no shelf", x.copy(0, 0, -1, 0, 1), -1);
         Check.due("no shelf is ahead of nothing", x.copy(4, 0, 8, 0, 1), -1);
         Check.due("nothing", x.copy(4, 0, 1, 0, 1), -11);
         Check.due("nothing", x.copy(0, 0, 4, 0, 1), -11);
