@@ -21,6 +21,14 @@ final class Check {
         }
     }
 
+    static int asked() {
+        return asked;
+    }
+
+    static int wrong() {
+        return wrong;
+    }
+
     static void isTrue(String what, boolean holds) {
         due(what, holds ? 1 : 0, 1);
     }
@@ -59,6 +67,29 @@ final class Check {
             signs[i] = text.charAt(i);
         }
         fill(x, d, BYTES, signs);
+    }
+
+    /** A new object with LIGHTS of KIND 0, of these strengths, half yellow. */
+    static CandleBar lamps(int... strengths) {
+        CandleBar x = new CandleBar();
+        for (int k = 0; k < strengths.length; k++) {
+            due("light " + k, x.light(0, strengths[k], 50, 1), k);
+        }
+        return x;
+    }
+
+    /** A new object with this RULE IN FORCE, and one LIGHT of KIND 0 for each strength. */
+    static CandleBar ruled(String rule, int... strengths) {
+        CandleBar x = lamps(strengths);
+        write(x, 7, rule);
+        due("rule " + rule, x.rule(7), 1);
+        return x;
+    }
+
+    /** Tells one MATCH by a ROW of ints in SHELF 7: how many came. */
+    static int tell(CandleBar x, int a, int b, int eye, int place, int night) {
+        fill(x, 7, INTS, a, b, eye, place, night);
+        return x.hear(7);
     }
 
     static void finish() {

@@ -528,7 +528,7 @@ final class Model {
     }
 
     /** The FAULT by a list of what may come next and a pile of open brackets, not by recursion. */
-    private static int faultOf(String text) {
+    static int faultOf(String text) {
         Deque<Character> open = new ArrayDeque<>();
         boolean wantsAtom = true;
         String number = "";

@@ -1,9 +1,10 @@
 import java.util.Random;
 
-/** Many runs of 512 calls, the same ones each time, in which the class and the Model must agree. */
+/** Many runs of up to 512 calls, the same ones each time, in which the class and the Model must agree. */
 public final class RandomRunsTest {
     private static final int RUNS = 600;
-    private static final int CALLS = 512;
+    /** Writing a text takes up to 46 calls at once; what calls answer beyond the 512th is free. */
+    private static final int CALLS = 512 - 46;
     private static final String SIGNS = "gsthwdy0123456789+-*/()[],";
 
     private final Random dice;

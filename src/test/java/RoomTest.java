@@ -4,7 +4,10 @@ import java.lang.management.ManagementFactory;
 /** All calls of a run live in one room: an object is small, and the dearest calls make nothing. */
 public final class RoomTest {
     private static final ThreadMXBean COUNTER = (ThreadMXBean) ManagementFactory.getThreadMXBean();
-    private static final int TIMES = 512;
+    /** With what fullBar takes these stay below the 512 calls of an object. */
+    private static final int BARS = 40;
+    private static final int ROUNDS = 10;
+    private static final int TOSSES = 350;
 
     private RoomTest() {
     }
@@ -58,12 +61,17 @@ public final class RoomTest {
     }
 
     private static void callsMakeNothing() {
-        CandleBar x = fullBar();
-        callAll(x);
+        CandleBar[] bars = new CandleBar[BARS];
+        for (int k = 0; k < BARS; k++) {
+            bars[k] = fullBar();
+        }
+        callAll(fullBar());
         long before = made();
         long sum = 0;
-        for (int k = 0; k < TIMES; k++) {
-            sum += callAll(x);
+        for (CandleBar x : bars) {
+            for (int k = 0; k < ROUNDS; k++) {
+                sum += callAll(x);
+            }
         }
         long bytes = made() - before;
         Check.isTrue("calls made " + bytes + " bytes (" + sum + ")", bytes < 4096);
@@ -72,10 +80,10 @@ public final class RoomTest {
     private static void tossesMakeLittle() {
         CandleBar x = fullBar();
         long before = made();
-        for (int k = 0; k < TIMES; k++) {
+        for (int k = 0; k < TOSSES; k++) {
             Check.due("toss", x.toss(1), 107);
         }
         long bytes = made() - before;
-        Check.isTrue("tosses made " + bytes + " bytes", bytes < TIMES * 2000L);
+        Check.isTrue("tosses made " + bytes + " bytes", bytes < TOSSES * 2000L);
     }
 }
