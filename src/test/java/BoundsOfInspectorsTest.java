@@ -295,14 +295,25 @@ public final class BoundsOfInspectorsTest {
             x.bill(k % 4, k % 12, 1 + k);
         }
         x.burn(11, 999);
+        x.setting(0, 5);
         x.out(29, true);
-        x.eye(7, 2, 20);
+        for (int eye = 0; eye <= 7; eye++) {
+            x.eye(eye, 0, 11 + eye);
+            x.eye(eye, 1, 22 + eye);
+            x.eye(eye, 2, 3 + eye);
+        }
         Check.due("full", x.image(), 12);
         x.burn(11, 1);
+        x.burn(0, 1);
         x.setting(11, 200);
+        x.setting(0, 200);
         x.out(29, false);
         x.out(0, true);
-        x.eye(7, 2, 3);
+        for (int eye = 0; eye <= 7; eye++) {
+            x.eye(eye, 0, 100);
+            x.eye(eye, 1, 100);
+            x.eye(eye, 2, 0);
+        }
         x.standard(0);
         x.damp(50);
         Check.write(x, 0, "0-7");
@@ -312,11 +323,16 @@ public final class BoundsOfInspectorsTest {
         for (int what = 0; what <= 5; what++) {
             Check.due("count(" + what + ")", x.count(what), want[what]);
         }
+        Check.due("the first light's setting", x.of(0, 3), 5);
         Check.due("the last light's setting", x.of(11, 3), 0);
         Check.due("the last match is out", x.told(29, 5), 1);
         Check.due("the first is not", x.told(0, 5), 0);
         Check.due("the last bill", x.paid(19), 20);
-        Check.due("the last eye's lean", x.eye(7, 2, 0), 20);
+        for (int eye = 0; eye <= 7; eye++) {
+            Check.due("yellow", x.eye(eye, 0, 1), 11 + eye);
+            Check.due("blue", x.eye(eye, 1, 1), 22 + eye);
+            Check.due("lean", x.eye(eye, 2, 1), 3 + eye);
+        }
         Check.due("the standard", x.standard(0), 11);
         Check.due("the damp", x.damp(0), 0);
         Check.due("the rule", x.right(0), 1);

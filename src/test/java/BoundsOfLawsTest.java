@@ -190,6 +190,7 @@ public final class BoundsOfLawsTest {
         Check.due("the other one", x.laws(4, 0, 0), 10200);
         Check.due("by one law", x.parts(4, 0, 0, 1), 0);
         Check.due("all again", x.parts(0, 0, 0, 1), 64);
+        Check.due("by all of the last eye, with the greatest slip", x.parts(7, 50, 0, 1), 64);
         Check.due("by one law again", x.parts(3, 0, 0, 2), 0);
         Check.tell(x, 0, 1, 5, 50, 0);
         Check.due("places 48 to 52", x.parts(5, 2, 0, 1), 4);

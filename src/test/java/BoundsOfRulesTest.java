@@ -65,6 +65,7 @@ public final class BoundsOfRulesTest {
         Document.says(part, "a PRICE (1 .. 999)", BoundsOfRulesTest::prices);
         Document.says(part, "times its WORTH then, by 100, cut toward 0.", BoundsOfRulesTest::paidIsCut);
         Document.says(part, "over its BILLS what would be paid by WORTH now, less what was.", BoundsOfRulesTest::owedOfEach);
+        Document.says(part, "what would be paid by WORTH now", BoundsOfRulesTest::owedIn64Bits);
     }
 
     private static void promisesOfTexts() {
@@ -512,6 +513,13 @@ public final class BoundsOfRulesTest {
         x.burn(3, 30);
         Check.due("3 of 200 are more than 1 hundredth", x.aged(1), 2 + 8);
         Check.due("and fewer than 2", x.aged(2), 2);
+        x = new CandleBar();
+        x.light(4, 9999, 0, 200);
+        x.burn(0, 999);
+        x.burn(0, 991);
+        Check.due("199 of 19998 are just too few", x.aged(1), 0);
+        x.burn(0, 10);
+        Check.due("200 of 19998", x.aged(1), 1);
     }
 
     // ---- BILLS
@@ -883,9 +891,23 @@ public final class BoundsOfRulesTest {
         x.standard(1);
         Check.due("ten by 100 now, ten by 150, paid by 200 and 300", x.owed(3), 10 * (10 + 15) - 10 * (20 + 30));
         Check.due("the other houses", x.owed(0) + x.owed(1) + x.owed(2), 0);
-        rule(x, "0-g*g");
+        rule(x, "g*100");
+        Check.due("by a hundred times as much it is as it was", x.owed(3), 10 * (10 + 15) - 10 * (20 + 30));
+        rule(x, "g*g");
         x.standard(0);
-        Check.due("ten by 400, ten by 900", x.owed(3), 10 * (40 + 90) - 10 * (20 + 30));
+        Check.due("ten by 400, ten by 900 now", x.owed(3), 10 * (40 + 90) - 10 * (20 + 30));
+        rule(x, "0-g*g");
+        Check.due("both below 0 come to the same", x.owed(3), 10 * (40 + 90) - 10 * (20 + 30));
+    }
+
+    private static void owedIn64Bits() {
+        CandleBar x = ready(1, 2);
+        x.bill(3, 1, 999);
+        Check.due("200 by 999", x.paid(0), 1998);
+        rule(x, "(8192*8192*32+1)*(s-1)-1");
+        Check.due("999 times the greatest worth, less what was", x.owed(3), 2145336164352L - 1998);
+        rule(x, "(8192*8192*32-1)*(s-1)+1");
+        Check.due("999 times the least worth, less what was", x.owed(3), -2145336164352L - 1998);
     }
 
     private static void owedNotAsTold() {

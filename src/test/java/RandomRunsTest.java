@@ -31,9 +31,32 @@ public final class RandomRunsTest {
             light();
             calls++;
         }
+        if (run % 3 == 0) {
+            calls += fillUp();
+        }
         while (calls < CALLS) {
             calls += call();
         }
+    }
+
+    /** Some runs begin with so much that there is hardly room for more; how many calls it took. */
+    private int fillUp() {
+        int matches = dice.nextInt(31);
+        int bills = dice.nextInt(21);
+        int light = aLight();
+        same("standard", x.standard(light), m.standard(light));
+        for (int k = 0; k < matches; k++) {
+            int a = aLight();
+            int b = aLight();
+            int eye = any(0, 7);
+            same("match", x.match(a, b, eye, k), m.match(a, b, eye, k));
+        }
+        for (int k = 0; k < bills; k++) {
+            int of = aLight();
+            int price = any(1, 999);
+            same("bill", x.bill(k % 4, of, price), m.bill(k % 4, of, price));
+        }
+        return matches + bills + 1;
     }
 
     /** A number of the range, now and then one of its ends, one just beyond, or any. */
